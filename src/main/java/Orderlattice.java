@@ -222,7 +222,7 @@ public final class Orderlattice {
         Order by = orderAt(order);
         spareRow.becomeCopyOf(things);
         StringBuilder told = new StringBuilder();
-        for (int i = 0; i < MOST_THINGS && spareRow.length() > 0; i++) {
+        for (int left = spareRow.length(); left > 0; left--) {
             int place = isQueued ? spareRow.firstPlaceBy(by) : 0;
             appendGap(told);
             told.append(by.rankOf(spareRow.valueOn(place)));
@@ -367,24 +367,24 @@ public final class Orderlattice {
     }
 
     public boolean isSound() {
-        boolean isSound = true;
-        for (int i = 0; isSound && i < ORDERS; i++) {
+        boolean holds = true;
+        for (int i = 0; holds && i < ORDERS; i++) {
             Order one = orderAt(i);
-            isSound = auditor.areSignsTurned(one) && auditor.areRanksAsClasses(one);
-            for (int row = 0; isSound && row < ROWS; row++) {
+            holds = auditor.areSignsTurned(one) && auditor.areRanksAsClasses(one);
+            for (int row = 0; holds && row < ROWS; row++) {
                 Row things = rowAt(row);
-                isSound = auditor.areWaysAgreed(things, one) && auditor.staysSorted(things, one)
+                holds = auditor.areWaysAgreed(things, one) && auditor.staysSorted(things, one)
                         && auditor.isTurnedAlike(things, one) && auditor.isQueuedAlike(things, one);
             }
-            for (int j = 0; isSound && j < ORDERS; j++) {
+            for (int j = 0; holds && j < ORDERS; j++) {
                 Order other = orderAt(j);
-                isSound = auditor.isRefiningSound(one, other);
-                for (int row = 0; isSound && row < ROWS; row++) {
-                    isSound = auditor.isProductAlike(rowAt(row), one, other);
+                holds = auditor.isRefiningSound(one, other);
+                for (int row = 0; holds && row < ROWS; row++) {
+                    holds = auditor.isProductAlike(rowAt(row), one, other);
                 }
             }
         }
-        return isSound;
+        return holds;
     }
 
     public long digest() {

@@ -6,6 +6,12 @@ final class Check {
         Object answer();
     }
 
+    private static final int ROWS = 3;
+    private static final int ORDERS = 4;
+    private static final int VALUES = 16;
+    private static final int COUNTS = 5;
+    private static final int REFUSALS = 3;
+
     private static int asked = 0;
     private static int wrong = 0;
 
@@ -20,12 +26,11 @@ final class Check {
         }
     }
 
-    /** The call throws just this exception, and changes nothing. */
+    /** The call throws just this exception, and changes nothing, house() and digest() neither. */
     static void dueThrow(Orderlattice x, String what, Class<?> want, Call call) {
-        long before = x.digest();
-        Object got = outcome(call);
-        due(what, got, want);
-        due(what + " changes nothing", x.digest(), before);
+        String before = whole(x);
+        due(what, outcome(call), want);
+        due(what + " changes nothing", whole(x), before);
     }
 
     static void dueIndex(Orderlattice x, String what, Call call) {
@@ -39,10 +44,19 @@ final class Check {
     /** The call answers REFUSED, counts that, and changes nothing else. */
     static void dueRefused(Orderlattice x, String what, Call call) {
         String before = state(x);
-        int refusals = x.house(3);
-        due(what, outcome(call), -9);
-        due(what + " counts", x.house(3), refusals + 1);
+        int refusals = x.house(REFUSALS);
+        long digest = x.digest();
+        due(what + " is refused", outcome(call), -9);
+        due(what + " counts", x.house(REFUSALS), refusals + 1);
         due(what + " changes nothing else", state(x), before);
+        due(what + " changes the digest by that alone", x.digest(), digest + weightOfRefusals(x));
+    }
+
+    /** The call answers this, and changes nothing: nothing is counted either. */
+    static void dueStays(Orderlattice x, String what, Object want, Call call) {
+        String before = whole(x);
+        due(what, outcome(call), want);
+        due(what + " changes nothing", whole(x), before);
     }
 
     /** What the call answers, or the class of what it throws. */
@@ -54,16 +68,35 @@ final class Check {
         }
     }
 
-    /** All that can be asked of an object but how often it refused. */
+    /** All that can be asked of an object's state but how often it refused. */
     static String state(Orderlattice x) {
         StringBuilder told = new StringBuilder();
-        for (int row = 0; row < 3; row++) {
+        for (int row = 0; row < ROWS; row++) {
             told.append(x.text(row)).append('|');
         }
-        for (int order = 0; order < 4; order++) {
+        for (int order = 0; order < ORDERS; order++) {
             told.append(x.orderText(order)).append('|');
         }
-        return told.append(x.house(2)).append('|').append(x.house(4)).toString();
+        for (int what = 0; what < COUNTS; what++) {
+            told.append(what == REFUSALS ? "" : x.house(what) + " ");
+        }
+        return told.toString();
+    }
+
+    private static String whole(Orderlattice x) {
+        return state(x) + x.house(REFUSALS) + " " + x.digest();
+    }
+
+    /** By how much the digest grows with one refusal more: 31 for each number that comes behind that count. */
+    private static long weightOfRefusals(Orderlattice x) {
+        int ofRows = ROWS + 2 * x.house(0);
+        int ofOrders = ORDERS * (1 + 1 + VALUES) + 2 * x.house(1);
+        int behind = 1 + ofRows + ofOrders + 2 * ORDERS * ORDERS + 2 * ROWS * ORDERS + 1;
+        long weight = 1;
+        for (int i = 0; i < behind; i++) {
+            weight *= 31;
+        }
+        return weight;
     }
 
     static void end() {

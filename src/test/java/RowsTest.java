@@ -18,7 +18,7 @@ public final class RowsTest {
 
     private static void newObject() {
         Orderlattice x = new Orderlattice();
-        Check.due("1: a new object's state", Check.state(x), "|||||||0|0");
+        Check.due("1: a new object's state", Check.state(x), "|||||||0 0 0 0 ");
         for (int what = 0; what <= 4; what++) {
             Check.due("1: house(" + what + ")", x.house(what), 0);
         }

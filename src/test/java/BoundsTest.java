@@ -1,5 +1,3 @@
-import java.lang.reflect.InvocationTargetException;
-import java.lang.reflect.Method;
 import java.util.HashMap;
 import java.util.Map;
 import java.util.TreeSet;
@@ -41,7 +39,6 @@ public final class BoundsTest {
     private static final int CALLS_TO_ASK = 3;
 
     private static final Map<String, int[]> BOUNDS = new HashMap<>();
-    private static final Map<String, Method> METHODS = new HashMap<>();
 
     public static void main(String[] args) throws Exception {
         BOUNDS.put("row", around(0, 2));
@@ -107,10 +104,8 @@ public final class BoundsTest {
     private void begin() throws Exception {
         x = new Orderlattice();
         m = new Model();
-        for (String call : calls) {
-            make(x, call);
-            make(m, call);
-        }
+        Calls.makeAll(x, calls);
+        Calls.makeAll(m, calls);
         callsLeft = MOST_CALLS - calls.length - 1;
     }
 
@@ -135,8 +130,8 @@ public final class BoundsTest {
             dueUnchanged(words[0]);
         }
         callsLeft -= CALLS_TO_ASK;
-        Object want = answer(m, words[0], numbers);
-        Object got = answer(x, words[0], numbers);
+        Object want = Calls.answer(m, words[0], numbers);
+        Object got = Calls.answer(x, words[0], numbers);
         // Put together only where it is told, since these are many.
         if (!want.equals(got)) {
             Check.due(told(words, numbers), got, want);
@@ -161,46 +156,5 @@ public final class BoundsTest {
             told.append(' ').append(number);
         }
         return told.toString();
-    }
-
-    private static void make(Object target, String call) throws Exception {
-        String[] words = call.split(" ");
-        int[] numbers = new int[words.length - 1];
-        for (int i = 0; i < numbers.length; i++) {
-            numbers[i] = Integer.parseInt(words[i + 1]);
-        }
-        answer(target, words[0], numbers);
-    }
-
-    /** What the call answers, or the class of what it throws. */
-    private static Object answer(Object target, String name, int[] numbers) throws Exception {
-        Method method = methodOf(target, name);
-        Class<?>[] types = method.getParameterTypes();
-        Object[] given = new Object[numbers.length];
-        for (int i = 0; i < given.length; i++) {
-            given[i] = types[i] == boolean.class ? (Object) (numbers[i] == 1) : (Object) numbers[i];
-        }
-        try {
-            return method.invoke(target, given);
-        } catch (InvocationTargetException e) {
-            return e.getCause().getClass();
-        }
-    }
-
-    /** The one of that name whose arguments are numbers and flags alone. */
-    private static Method methodOf(Object target, String name) {
-        return METHODS.computeIfAbsent(target.getClass().getName() + "." + name, key -> {
-            for (Method method : target.getClass().getDeclaredMethods()) {
-                boolean isPlain = true;
-                for (Class<?> type : method.getParameterTypes()) {
-                    isPlain &= type.isPrimitive();
-                }
-                if (isPlain && method.getName().equals(name)) {
-                    method.setAccessible(true);
-                    return method;
-                }
-            }
-            throw new IllegalStateException("no method " + key);
-        });
     }
 }

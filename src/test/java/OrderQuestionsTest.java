@@ -171,9 +171,8 @@ public final class OrderQuestionsTest {
     }
 
     private static void outOfBounds() {
-        Orderlattice x = new Orderlattice();
-        x.step(0, 0, false);
         for (int order = -1; order <= 4; order += 5) {
+            Orderlattice x = Made.withOrders("0+");
             int wrong = order;
             String of = " of " + order;
             Check.dueIndex(x, "32: orderText" + of, () -> x.orderText(wrong));
@@ -190,6 +189,7 @@ public final class OrderQuestionsTest {
             Check.dueIndex(x, "39: rank" + of, () -> x.rank(wrong, 16));
         }
         for (int value = -1; value <= 16; value += 17) {
+            Orderlattice x = Made.withOrders("0+");
             int wrong = value;
             String of = " of value " + value;
             Check.dueArgument(x, "33: compare, one" + of, () -> x.compare(0, wrong, 0));

@@ -1,44 +1,39 @@
 import com.sun.management.ThreadMXBean;
 import java.lang.management.ManagementFactory;
 
-/** The dearest calls, 512 of each, together make far less than the room of a run holds. */
+/** The dearest calls, 512 of each, make far less than the room of a run holds. */
 public final class RoomTest {
     private static final int CALLS = 512;
+    // Some calls are asked two at a time, and making the object takes some, too.
+    private static final int ASKED = 200;
     // A run may make some 600,000 objects; the smallest one takes 16 bytes.
     private static final long MOST_BYTES = 600_000L * 16 / 4;
 
     private static long kept = 0;
 
     public static void main(String[] args) {
-        Orderlattice x = new Orderlattice();
-        for (int i = 0; i < 12; i++) {
-            x.fill(0, 12, i, 7);
-            x.copyRow(0, 1);
-            x.clear(i == 11 ? 2 : 0);
-        }
-        for (int key = 0; key < 5; key++) {
-            x.step(0, key, true);
-        }
-        dueRoom("43: isSound", x, 0);
-        dueRoom("44: digest", x, 1);
-        dueRoom("17: text", x, 2);
-        dueRoom("23: groups", x, 3);
-        dueRoom("24: ranks", x, 4);
-        dueRoom("32: orderText", x, 5);
-        dueRoom("11: sort", x, 6);
-        dueRoom("31: tellApart", x, 7);
+        dueRoom("43: isSound", 0);
+        dueRoom("44: digest", 1);
+        dueRoom("17: text", 2);
+        dueRoom("23: groups", 3);
+        dueRoom("24: ranks", 4);
+        dueRoom("32: orderText", 5);
+        dueRoom("11: sort", 6);
+        dueRoom("31: tellApart", 7);
         Check.due("something was answered", kept != 0, true);
         Check.end();
     }
 
-    private static void dueRoom(String what, Orderlattice x, int call) {
+    private static void dueRoom(String what, int call) {
+        Orderlattice x = Made.full();
+        x.wipe(1);
         ThreadMXBean threads = (ThreadMXBean) ManagementFactory.getThreadMXBean();
         kept += answer(x, call);
         long before = threads.getCurrentThreadAllocatedBytes();
-        for (int i = 0; i < CALLS; i++) {
+        for (int i = 0; i < ASKED; i++) {
             kept += answer(x, call);
         }
-        long bytes = threads.getCurrentThreadAllocatedBytes() - before;
+        long bytes = (threads.getCurrentThreadAllocatedBytes() - before) * CALLS / ASKED;
         Check.due(what + " makes " + bytes + " bytes, within the room", bytes <= MOST_BYTES, true);
     }
 
